@@ -479,9 +479,11 @@ public final class RowClasses {
     /** The STEPS, and the motions of SETS of them; a SET is told by its bits. */
     private static final class Circle {
         private int n;
+        private int everyStep;
 
         Circle() {
             n = MOST_STEPS;
+            everyStep = (1 << MOST_STEPS) - 1;
         }
 
         int count() {
@@ -490,10 +492,11 @@ public final class RowClasses {
 
         void become(int steps) {
             n = steps;
+            everyStep = (1 << steps) - 1;
         }
 
         int all() {
-            return (1 << n) - 1;
+            return everyStep;
         }
 
         boolean hasStep(int number) {
@@ -501,11 +504,12 @@ public final class RowClasses {
         }
 
         boolean hasSet(int set) {
-            return set >= 0 && set <= all();
+            return set >= 0 && set <= everyStep;
         }
 
         int wrapped(int number) {
-            return n < 1 ? 0 : Math.floorMod(number, n);
+            int left = n < 1 ? 0 : number % n;
+            return left < 0 ? left + n : left;
         }
 
         /** The SET's i-th STEP from below, -1 if it has not so many. */
@@ -524,7 +528,7 @@ public final class RowClasses {
 
         /** TURNED by t of 0 .. n. */
         int turned(int set, int t) {
-            return ((set << t) | (set >> (n - t))) & all();
+            return ((set << t) | (set >> (n - t))) & everyStep;
         }
 
         int timesEach(int set, int m) {
