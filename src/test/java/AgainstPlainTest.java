@@ -1,8 +1,6 @@
 import java.util.ArrayList;
 import java.util.Collections;
-import java.util.HashMap;
 import java.util.List;
-import java.util.Map;
 import java.util.Random;
 import java.util.TreeSet;
 
@@ -24,7 +22,7 @@ public final class AgainstPlainTest {
             pairsOfSets(plain);
             spreads(plain);
             rowsOf(plain);
-            Check.due(n + " steps: rows()", at(n).rows(), plain.rows(List.of(0)));
+            Check.due(n + " steps: rows()", at(n).rows(), plain.rows());
         }
         rounds();
         Check.end("AgainstPlainTest");
@@ -62,22 +60,12 @@ public final class AgainstPlainTest {
     }
 
     private static void everySet(Plain plain) {
-        Map<List<Integer>, List<Integer>> likeVectors = new HashMap<>();
-        for (int set = 0; set < 1 << plain.n; set++) {
-            likeVectors.computeIfAbsent(vectorAndSize(plain, set), v -> new ArrayList<>()).add(set);
-        }
         for (int set = 0; set < 1 << plain.n; set++) {
             classOf(plain, set);
             orders(plain, set);
-            vectorAndTwin(plain, set, likeVectors.get(vectorAndSize(plain, set)));
+            vectorAndTwin(plain, set);
             motions(plain, set);
         }
-    }
-
-    private static List<Integer> vectorAndSize(Plain plain, int set) {
-        List<Integer> key = plain.vector(set);
-        key.add(plain.stepsOf(set).size());
-        return key;
     }
 
     private static void classOf(Plain plain, int set) {
@@ -102,28 +90,23 @@ public final class AgainstPlainTest {
         }
     }
 
-    private static void vectorAndTwin(Plain plain, int set, List<Integer> alike) {
+    private static void vectorAndTwin(Plain plain, int set) {
         List<Integer> vector = plain.vector(set);
         for (int d = 1; d <= plain.n / 2; d++) {
             Check.due(plain.n + " steps: vector(" + set + ", " + d + ")",
                     at(plain.n).vector(set, d), vector.get(d - 1));
         }
-        TreeSet<Integer> others = new TreeSet<>(alike);
-        others.removeAll(plain.members(set, 1));
-        Check.due(plain.n + " steps: twin(" + set + ")", at(plain.n).twin(set),
-                others.isEmpty() ? -3 : others.first());
+        Check.due(plain.n + " steps: twin(" + set + ")", at(plain.n).twin(set), plain.twin(set));
     }
 
     private static void motions(Plain plain, int set) {
         int n = plain.n;
         String of = n + " steps: (" + set + ") ";
-        int rest = 0;
         for (int s = 0; s < n; s++) {
-            rest += plain.stepsOf(set).contains(s) ? 0 : 1 << s;
             Check.due(of + "multiplied by " + s,
                     at(n).multiplied(set, s), plain.multiplied(set, s));
         }
-        Check.due(of + "others", at(n).others(set), rest);
+        Check.due(of + "others", at(n).others(set), plain.others(set));
         Check.due(of + "keeps, turned", at(n).keeps(set, false), plain.keeps(set, false));
         Check.due(of + "keeps, mirrored", at(n).keeps(set, true), plain.keeps(set, true));
         Check.due(of + "even", at(n).even(set), plain.even(set));
@@ -157,12 +140,8 @@ public final class AgainstPlainTest {
     private static void spreads(Plain plain) {
         for (int k = 1; k <= plain.n; k++) {
             for (int shift = 0; shift < plain.n; shift++) {
-                List<Integer> steps = new ArrayList<>();
-                for (int i = 0; i < k; i++) {
-                    steps.add(Math.floorDiv(plain.n * i + shift, k));
-                }
                 Check.due(plain.n + " steps: spread(" + k + ", " + shift + ")",
-                        at(plain.n).spread(k, shift), plain.bits(steps));
+                        at(plain.n).spread(k, shift), plain.spread(k, shift));
             }
         }
     }
@@ -178,7 +157,7 @@ public final class AgainstPlainTest {
             String of = row + " ";
             Check.due(of + "forms()", y.forms(), plain.forms(row));
             Check.due(of + "unlike()", y.unlike(), plain.unlike(row));
-            formsAndKept(plain, row, random);
+            formsAndKept(plain, row);
             tables(plain, row, y);
             halves(plain, row, y);
             for (int d = 1; d <= plain.n; d++) {
@@ -211,7 +190,7 @@ public final class AgainstPlainTest {
         return row;
     }
 
-    private static void formsAndKept(Plain plain, List<Integer> row, Random random) {
+    private static void formsAndKept(Plain plain, List<Integer> row) {
         int n = plain.n;
         for (int kind = 0; kind < 4; kind++) {
             RowClasses y = Check.circle(n);

@@ -8,6 +8,8 @@ import java.nio.file.Path;
 import java.util.Arrays;
 import java.util.Set;
 import java.util.TreeSet;
+import java.util.regex.Matcher;
+import java.util.regex.Pattern;
 
 /** The document's public face, and the rules of LANGUAGE.md that a test can see. */
 public final class FaceTest {
@@ -22,28 +24,42 @@ public final class FaceTest {
         "int rows()", "int fills(int, int)", "int derived(int, int)", "int kept(int, int, int)",
         "long rounds(int, int, boolean)",
     };
-    /** Words and signs of what the rules leave out. */
-    private static final String[] LEFT_OUT = {
-        "->", "::", "import ", "package ", "catch", "finally", "synchronized", "assert", "protected",
-        "static {", "System.", "Exact(", "double", "float", "volatile", "native",
+    /** Words and signs of what the rules leave out, by the number of the rule. */
+    private static final String[][] LEFT_OUT = {
+        {"2", "::"}, {"4", "Exact("}, {"5", "static {"}, {"6", "finally"}, {"6", "getMessage"},
+        {"6", "synchronized"}, {"6", "assert "}, {"6", "extends RuntimeException"},
+        {"6", "extends Exception"}, {"13", "currentTimeMillis"}, {"13", "nanoTime"},
+        {"13", "Random"}, {"13", "Thread"}, {"13", "java.io"}, {"13", "java.nio"},
+        {"13", "java.net"}, {"13", "getenv"},
     };
+    /** Caught by name or by a class above, the machine's own exceptions would be an answer. */
+    private static final String[] NEVER_CAUGHT = {
+        "ArrayIndexOutOfBoundsException", "NullPointerException", "ClassCastException",
+        "NegativeArraySizeException", "ArrayStoreException", "Throwable", "Exception", "Error",
+    };
+    private static final int MOST_PARAMETERS = 7;
 
     public static void main(String[] args) throws IOException {
-        face();
+        members();
+        constructor();
         nested();
-        String text = Files.readString(Path.of("src/main/java/RowClasses.java"));
-        source(text.replaceAll("(?s)/\\*.*?\\*/", "").replaceAll("//.*", ""));
+        source(withoutComments(Files.readString(Path.of("src/main/java/RowClasses.java"))));
         Check.end("FaceTest");
     }
 
-    private static void face() {
+    private static String withoutComments(String text) {
+        return text.replaceAll("(?s)/\\*.*?\\*/", "").replaceAll("//.*", "");
+    }
+
+    private static void members() {
+        Check.sentence("the class of the document, public and final, with its methods, no other");
         Class<?> c = RowClasses.class;
         Check.holds("the class is public and final",
                 Modifier.isPublic(c.getModifiers()) && Modifier.isFinal(c.getModifiers()));
         Set<String> seen = new TreeSet<>();
         for (Method method : c.getDeclaredMethods()) {
-            if (!Modifier.isPrivate(method.getModifiers())) {
-                Check.holds(method + " is public and no more",
+            if (!Modifier.isPrivate(method.getModifiers()) && !method.isSynthetic()) {
+                Check.holds(method + " is public, and not static",
                         method.getModifiers() == Modifier.PUBLIC);
                 seen.add(text(method));
             }
@@ -51,10 +67,16 @@ public final class FaceTest {
         Set<String> due = new TreeSet<>(Arrays.asList(FACE));
         Check.holds("the face is " + seen + ", due is " + due, seen.equals(due));
         for (Field field : c.getDeclaredFields()) {
-            Check.holds(field + " is private and final", Modifier.isPrivate(field.getModifiers())
-                    && Modifier.isFinal(field.getModifiers()));
+            int modifiers = field.getModifiers();
+            Check.holds(field + " is private", Modifier.isPrivate(modifiers));
+            Check.holds(field + " is final if it is static",
+                    !Modifier.isStatic(modifiers) || Modifier.isFinal(modifiers));
         }
-        Constructor<?>[] made = c.getDeclaredConstructors();
+    }
+
+    private static void constructor() {
+        Check.sentence("public RowClasses()");
+        Constructor<?>[] made = RowClasses.class.getDeclaredConstructors();
         Check.holds("one public constructor without parameters", made.length == 1
                 && Modifier.isPublic(made[0].getModifiers()) && made[0].getParameterCount() == 0);
     }
@@ -69,37 +91,48 @@ public final class FaceTest {
     }
 
     private static void nested() {
-        Set<String> names = new TreeSet<>();
-        for (Method method : RowClasses.class.getDeclaredMethods()) {
-            if (Modifier.isPublic(method.getModifiers())) {
-                names.add(method.getName());
-            }
-        }
-        for (Method method : RowClasses.class.getDeclaredMethods()) {
-            Check.holds(method + " bears a public one's name",
-                    Modifier.isPublic(method.getModifiers()) || !names.contains(method.getName()));
-        }
+        Check.sentence("the classes inside are private or package-visible and static");
         for (Class<?> inside : RowClasses.class.getDeclaredClasses()) {
-            Check.holds(inside + " is static and private",
-                    Modifier.isStatic(inside.getModifiers())
-                            && Modifier.isPrivate(inside.getModifiers()));
-            for (Method method : inside.getDeclaredMethods()) {
-                Check.holds(method + " bears a public one's name",
-                        !names.contains(method.getName()));
-                Check.holds(method + " has more than seven parameters",
-                        method.getParameterCount() <= 7);
-            }
+            int modifiers = inside.getModifiers();
+            Check.holds(inside + " is static", Modifier.isStatic(modifiers));
+            Check.holds(inside + " is neither public nor protected",
+                    !Modifier.isPublic(modifiers) && !Modifier.isProtected(modifiers));
+            methods(inside);
+        }
+        methods(RowClasses.class);
+    }
+
+    private static void methods(Class<?> of) {
+        Set<String> names = new TreeSet<>();
+        for (String one : FACE) {
+            names.add(one.substring(one.indexOf(' ') + 1, one.indexOf('(')));
+        }
+        for (Method method : of.getDeclaredMethods()) {
+            Check.holds(method + " is private and bears a public one's name",
+                    !Modifier.isPrivate(method.getModifiers())
+                            || !names.contains(method.getName()));
+            Check.holds(method + " has more than seven parameters",
+                    method.getParameterCount() <= MOST_PARAMETERS);
         }
     }
 
     private static void source(String text) {
-        for (String word : LEFT_OUT) {
-            Check.holds("the source has '" + word + "'", !text.contains(word));
+        for (String[] rule : LEFT_OUT) {
+            Check.sentence("rule " + rule[0]);
+            Check.holds("the source has '" + rule[1] + "'", !text.contains(rule[1]));
         }
-        Check.holds("one throw, that of steps(0)",
-                text.split("throw new ", -1).length == 2
-                        && text.contains("throw new ArithmeticException("));
-        // Every array is made in a constructor, so that no call takes room.
-        Check.holds("three arrays are made", text.split("new int\\[", -1).length == 4);
+        Check.sentence("no package line, no library but what is listed");
+        Check.holds("a package", !Pattern.compile("(?m)^\\s*package ").matcher(text).find());
+        Matcher imported = Pattern.compile("import\\s+([^;]*);").matcher(text);
+        while (imported.find()) {
+            Check.holds("import " + imported.group(1), imported.group(1).startsWith("java.util."));
+        }
+        Check.sentence("rule 6: what the machine throws is not caught");
+        Matcher caught = Pattern.compile("catch\\s*\\(([^)]*)\\)").matcher(text);
+        while (caught.find()) {
+            for (String name : caught.group(1).split("[\\s|]+")) {
+                Check.holds("catch (" + name + ")", !Arrays.asList(NEVER_CAUGHT).contains(name));
+            }
+        }
     }
 }

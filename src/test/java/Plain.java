@@ -4,17 +4,25 @@ import java.util.ArrayList;
 import java.util.Arrays;
 import java.util.Collections;
 import java.util.Deque;
+import java.util.HashMap;
 import java.util.HashSet;
 import java.util.List;
+import java.util.Map;
 import java.util.Set;
 import java.util.TreeSet;
 
 /**
  * The document's terms, word for word and without thought of speed: what RowClasses answers is held
- * against this. It knows no refusals; those are looked at one by one in the other tests.
+ * against this. It knows no refusals but -3 for what there is none of; Model tells the others.
  */
 final class Plain {
     final int n;
+    /** What is asked again and again is kept, or the tests would take too long. */
+    private final Map<List<Integer>, TreeSet<Integer>> keptMembers = new HashMap<>();
+    private final Map<List<Integer>, TreeSet<Integer>> keptClasses = new HashMap<>();
+    private final Map<Integer, List<Integer>> keptVectors = new HashMap<>();
+    private final Map<Integer, Integer> keptDiffers = new HashMap<>();
+    private int keptRows = -1;
 
     Plain(int n) {
         this.n = n;
@@ -70,8 +78,18 @@ final class Plain {
         return BigInteger.valueOf(m).gcd(BigInteger.valueOf(n)).intValue() == 1;
     }
 
-    /** The CLASS: all that the motions make of a SET, one behind the other. */
     TreeSet<Integer> members(int set, int kind) {
+        List<Integer> key = List.of(set, kind);
+        TreeSet<Integer> kept = keptMembers.get(key);
+        if (kept == null) {
+            kept = madeOf(set, kind);
+            keptMembers.put(key, kept);
+        }
+        return kept;
+    }
+
+    /** The CLASS: all that the motions make of a SET, one behind the other. */
+    private TreeSet<Integer> madeOf(int set, int kind) {
         TreeSet<Integer> found = new TreeSet<>();
         Deque<Integer> open = new ArrayDeque<>();
         found.add(set);
@@ -97,8 +115,18 @@ final class Plain {
         return found;
     }
 
-    /** All CLASSES of a KIND by their least SETS, those with SETS of k STEPS. */
     TreeSet<Integer> classes(int k, int kind) {
+        List<Integer> key = List.of(k, kind);
+        TreeSet<Integer> kept = keptClasses.get(key);
+        if (kept == null) {
+            kept = listed(k, kind);
+            keptClasses.put(key, kept);
+        }
+        return kept;
+    }
+
+    /** All CLASSES of a KIND by their least SETS, those with SETS of k STEPS. */
+    private TreeSet<Integer> listed(int k, int kind) {
         TreeSet<Integer> result = new TreeSet<>();
         Set<Integer> seen = new HashSet<>();
         for (int set = 0; set < 1 << n; set++) {
@@ -165,16 +193,46 @@ final class Plain {
     }
 
     int differ(int k) {
-        int result = 0;
-        for (int set : classes(k, 1)) {
-            if (set != 0 && !prime(set, 0).equals(prime(set, 1))) {
-                result++;
+        if (!keptDiffers.containsKey(k)) {
+            int result = 0;
+            for (int set : classes(k, 1)) {
+                if (set != 0 && !prime(set, 0).equals(prime(set, 1))) {
+                    result++;
+                }
             }
+            keptDiffers.put(k, result);
         }
-        return result;
+        return keptDiffers.get(k);
     }
 
     List<Integer> vector(int set) {
+        List<Integer> kept = keptVectors.get(set);
+        if (kept == null) {
+            kept = pairsApart(set);
+            keptVectors.put(set, kept);
+        }
+        return kept;
+    }
+
+    int twin(int set) {
+        for (int other = 0; other < 1 << n; other++) {
+            if (Integer.bitCount(other) == Integer.bitCount(set)
+                    && vector(other).equals(vector(set)) && !members(set, 1).contains(other)) {
+                return other;
+            }
+        }
+        return -3;
+    }
+
+    int others(int set) {
+        int rest = 0;
+        for (int s = 0; s < n; s++) {
+            rest += stepsOf(set).contains(s) ? 0 : 1 << s;
+        }
+        return rest;
+    }
+
+    private List<Integer> pairsApart(int set) {
         List<Integer> result = new ArrayList<>();
         for (int d = 1; d <= n / 2; d++) {
             int pairs = 0;
@@ -243,6 +301,14 @@ final class Plain {
         return 1;
     }
 
+    int spread(int k, int shift) {
+        List<Integer> steps = new ArrayList<>();
+        for (int i = 0; i < k; i++) {
+            steps.add(Math.floorDiv(n * i + shift, k));
+        }
+        return bits(steps);
+    }
+
     int generator(int set) {
         List<Integer> steps = stepsOf(set);
         for (int g = 0; g < n && !steps.isEmpty(); g++) {
@@ -296,8 +362,15 @@ final class Plain {
         return intervals.size() == row.size() - 1 ? 1 : 0;
     }
 
+    int rows() {
+        if (keptRows < 0) {
+            keptRows = rowsFrom(List.of(0));
+        }
+        return keptRows;
+    }
+
     /** Looks at every ROW, but for those whose INTERVALS are alike at their beginning already. */
-    int rows(List<Integer> begun) {
+    private int rowsFrom(List<Integer> begun) {
         if (unlike(begun) == 0) {
             return 0;
         }
@@ -309,7 +382,7 @@ final class Plain {
             if (!begun.contains(step)) {
                 List<Integer> longer = new ArrayList<>(begun);
                 longer.add(step);
-                result += rows(longer);
+                result += rowsFrom(longer);
             }
         }
         return result;
