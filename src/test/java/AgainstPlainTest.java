@@ -6,10 +6,14 @@ import java.util.TreeSet;
 
 /**
  * Every call but steps and add against the document's words in Plain: all SETS of every number of
- * STEPS, and many ROWS. An object is left before its 512th call, as the document has it.
+ * STEPS; all pairs of SETS and all ROWS of few STEPS, and many of more. An object is left before its
+ * 512th call, as the document has it.
  */
 public final class AgainstPlainTest {
     private static final int MOST_CALLS = 500;
+    /** Up to so many STEPS every pair of SETS is looked at, and every ROW. */
+    private static final int ALL_PAIRS = 6;
+    private static final int ALL_ROWS = 6;
 
     private static RowClasses x;
     private static int calls;
@@ -114,26 +118,36 @@ public final class AgainstPlainTest {
     }
 
     private static void pairsOfSets(Plain plain) {
+        int sets = 1 << plain.n;
+        if (plain.n <= ALL_PAIRS) {
+            for (int pair = 0; pair < sets * sets; pair++) {
+                pairOfSets(plain, pair / sets, pair % sets);
+            }
+            return;
+        }
         Random random = new Random(plain.n);
-        int n = plain.n;
         for (int pair = 0; pair < 600; pair++) {
-            int set = random.nextInt(1 << n);
+            int set = random.nextInt(sets);
             // Half of them inside, or there would hardly ever be one within the other.
-            int other = random.nextInt(1 << n) & (pair % 2 == 0 ? set : -1);
-            String of = n + " steps: (" + set + ", " + other + ") ";
-            for (int kind = 0; kind <= 2; kind++) {
-                Check.due(of + "within, kind " + kind,
-                        at(n).within(set, other, kind), plain.within(set, other, kind));
+            pairOfSets(plain, set, random.nextInt(sets) & (pair % 2 == 0 ? set : -1));
+        }
+    }
+
+    private static void pairOfSets(Plain plain, int set, int other) {
+        int n = plain.n;
+        String of = n + " steps: (" + set + ", " + other + ") ";
+        for (int kind = 0; kind <= 2; kind++) {
+            Check.due(of + "within, kind " + kind,
+                    at(n).within(set, other, kind), plain.within(set, other, kind));
+        }
+        for (boolean mirrored : new boolean[] {false, true}) {
+            for (int t = 0; t < n; t++) {
+                Check.due(of + "common, " + t + ", " + mirrored,
+                        at(n).common(set, other, t, mirrored),
+                        plain.common(set, other, t, mirrored));
             }
-            for (boolean mirrored : new boolean[] {false, true}) {
-                for (int t = 0; t < n; t++) {
-                    Check.due(of + "common, " + t + ", " + mirrored,
-                            at(n).common(set, other, t, mirrored),
-                            plain.common(set, other, t, mirrored));
-                }
-                Check.due(of + "best, " + mirrored,
-                        at(n).best(set, other, mirrored), plain.best(set, other, mirrored));
-            }
+            Check.due(of + "best, " + mirrored,
+                    at(n).best(set, other, mirrored), plain.best(set, other, mirrored));
         }
     }
 
@@ -147,24 +161,45 @@ public final class AgainstPlainTest {
     }
 
     private static void rowsOf(Plain plain) {
+        if (plain.n <= ALL_ROWS) {
+            everyRow(plain, new ArrayList<>());
+            return;
+        }
         Random random = new Random(100 + plain.n);
         for (int number = 0; number < 60; number++) {
-            List<Integer> row = someRow(plain, random, number);
-            RowClasses y = Check.circle(plain.n);
-            for (int step : row) {
-                y.add(step);
+            oneRow(plain, someRow(plain, random, number));
+        }
+    }
+
+    private static void everyRow(Plain plain, List<Integer> begun) {
+        if (begun.size() == plain.n) {
+            oneRow(plain, begun);
+            return;
+        }
+        for (int step = 0; step < plain.n; step++) {
+            if (!begun.contains(step)) {
+                List<Integer> longer = new ArrayList<>(begun);
+                longer.add(step);
+                everyRow(plain, longer);
             }
-            String of = row + " ";
-            Check.due(of + "forms()", y.forms(), plain.forms(row));
-            Check.due(of + "unlike()", y.unlike(), plain.unlike(row));
-            formsAndKept(plain, row);
-            tables(plain, row, y);
-            halves(plain, row, y);
-            for (int d = 1; d <= plain.n; d++) {
-                for (int kind = 0; kind <= 2 && plain.n % d == 0; kind++) {
-                    Check.due(of + "derived(" + d + ", " + kind + ")",
-                            y.derived(d, kind), plain.derived(row, d, kind));
-                }
+        }
+    }
+
+    private static void oneRow(Plain plain, List<Integer> row) {
+        RowClasses y = Check.circle(plain.n);
+        for (int step : row) {
+            y.add(step);
+        }
+        String of = row + " ";
+        Check.due(of + "forms()", y.forms(), plain.forms(row));
+        Check.due(of + "unlike()", y.unlike(), plain.unlike(row));
+        formsAndKept(plain, row);
+        tables(plain, row, y);
+        halves(plain, row, y);
+        for (int d = 1; d <= plain.n; d++) {
+            for (int kind = 0; kind <= 2 && plain.n % d == 0; kind++) {
+                Check.due(of + "derived(" + d + ", " + kind + ")",
+                        y.derived(d, kind), plain.derived(row, d, kind));
             }
         }
     }

@@ -9,6 +9,7 @@ public final class SetsTest {
         vectorOfNoneAndAll();
         vectorBounds();
         twin();
+        twinHasEveryNumberOfTheVector();
         twinThereIsNone();
         others();
         multiplied();
@@ -94,6 +95,16 @@ public final class SetsTest {
         Check.due("twin(0 3 7)", x.twin(Check.set(0, 3, 7)), -3);
         Check.due("twin(0 4 7)", x.twin(Check.set(0, 4, 7)), -3);
         Check.due("twin(0 1 3)", x.twin(Check.set(0, 1, 3)), -3);
+    }
+
+    private static void twinHasEveryNumberOfTheVector() {
+        Check.sentence("promise 11: the same VECTOR, from its first number to its last one");
+        for (int n = 2; n <= 12; n++) {
+            for (int d = 1; d < n; d++) {
+                // Pairs as far apart are one CLASS; of all others two numbers are unlike.
+                Check.due(n + ": twin(0 " + d + ")", Check.circle(n).twin(1 | 1 << d), -3);
+            }
+        }
     }
 
     private static void twinThereIsNone() {
