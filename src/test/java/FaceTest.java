@@ -38,12 +38,16 @@ public final class FaceTest {
         "NegativeArraySizeException", "ArrayStoreException", "Throwable", "Exception", "Error",
     };
     private static final int MOST_PARAMETERS = 7;
+    private static final int MOST_CLASSES = 12;
+    private static final int MOST_FIELDS = 20;
 
     public static void main(String[] args) throws IOException {
         members();
         constructor();
         nested();
-        source(withoutComments(Files.readString(Path.of("src/main/java/RowClasses.java"))));
+        String text = Files.readString(Path.of("src/main/java/RowClasses.java"));
+        source(withoutComments(text));
+        headings(text, Files.readString(Path.of("../shared/DOC.md")));
         Check.end("FaceTest");
     }
 
@@ -62,6 +66,7 @@ public final class FaceTest {
                 Check.holds(method + " is public, and not static",
                         method.getModifiers() == Modifier.PUBLIC);
                 seen.add(text(method));
+                thrown(method);
             }
         }
         Set<String> due = new TreeSet<>(Arrays.asList(FACE));
@@ -72,6 +77,12 @@ public final class FaceTest {
             Check.holds(field + " is final if it is static",
                     !Modifier.isStatic(modifiers) || Modifier.isFinal(modifiers));
         }
+    }
+
+    private static void thrown(Method method) {
+        String due = method.getName().equals("steps") ? "[class java.lang.ArithmeticException]" : "[]";
+        Check.same("what " + method.getName() + " says that it throws",
+                Arrays.toString(method.getExceptionTypes()), due);
     }
 
     private static void constructor() {
@@ -98,8 +109,22 @@ public final class FaceTest {
             Check.holds(inside + " is neither public nor protected",
                     !Modifier.isPublic(modifiers) && !Modifier.isProtected(modifiers));
             methods(inside);
+            fields(inside);
         }
         methods(RowClasses.class);
+        fields(RowClasses.class);
+        Check.sentence("rule 11: some twelve classes");
+        Check.holds("too many classes",
+                RowClasses.class.getDeclaredClasses().length < MOST_CLASSES);
+    }
+
+    private static void fields(Class<?> of) {
+        Check.sentence("rule 11: some twenty fields beside its constants");
+        int fields = 0;
+        for (Field field : of.getDeclaredFields()) {
+            fields += Modifier.isStatic(field.getModifiers()) ? 0 : 1;
+        }
+        Check.holds(of + " has too many fields", fields <= MOST_FIELDS);
     }
 
     private static void methods(Class<?> of) {
@@ -134,5 +159,30 @@ public final class FaceTest {
                 Check.holds("catch (" + name + ")", !Arrays.asList(NEVER_CAUGHT).contains(name));
             }
         }
+    }
+
+    /** The calls stand in the document's order, each behind the heading that it names for it. */
+    private static void headings(String text, String document) {
+        Check.sentence("Ahead of the calls .. the interface says: ---- ..");
+        Matcher ahead = Pattern.compile("Ahead of the calls (.*) the interface says: (---- .*)\\.")
+                .matcher(document);
+        int from = text.indexOf("public int steps(");
+        int found = 0;
+        while (ahead.find()) {
+            found++;
+            from = behind(text, "    // " + ahead.group(2) + "\n", from);
+            for (String name : ahead.group(1).replace("`", "").split(", ")) {
+                String type = name.equals("rounds") ? "long " : "int ";
+                from = behind(text, "    public " + type + name + "(", from);
+            }
+        }
+        Check.due("headings", found, 5);
+    }
+
+    /** Where the words stand behind a place of the text; the place itself if they do not. */
+    private static int behind(String text, String words, int from) {
+        int at = text.indexOf(words, from);
+        Check.holds("'" + words.strip() + "' does not stand where it is due", at >= 0);
+        return Math.max(at, from);
     }
 }
